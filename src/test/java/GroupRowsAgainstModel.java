@@ -13,6 +13,12 @@ public final class GroupRowsAgainstModel {
         5000, 5001, 100000, 100001, Integer.MAX_VALUE};
     private static final String REFUSED = "IllegalArgumentException";
 
+    // Kinds of calls: those before ROWS change the object, the others read it.
+    private static final int ROWS = 6;
+    private static final int KEY_AT = 8;
+    private static final int COUNT = 9;
+    private static final int TOLD = 10;
+
     /** The same numbers for the same run, on every machine. */
     private static final class Numbers {
         private long state;
@@ -218,6 +224,7 @@ public final class GroupRowsAgainstModel {
         Numbers numbers = new Numbers(run);
         GroupRows x = new GroupRows();
         Model model = new Model();
+        List<long[]> changes = new ArrayList<>();
         int range = 1 + numbers.below(run % 2 == 0 ? 3 : 60);
         int most = run % 3 == 0 ? 400 : 12;
         for (int n = 0; n < CALLS; n++) {
@@ -236,8 +243,11 @@ public final class GroupRowsAgainstModel {
                 case 8: a = upTo(numbers, model.rows.size()); b = upTo(numbers, model.width); break;
                 default: a = upTo(numbers, model.rows.size()); b = upTo(numbers, model.measures); break;
             }
-            if (kind == 10) {
+            if (kind == TOLD) {
                 c = upTo(numbers, 3);
+            }
+            if (kind < ROWS) {
+                changes.add(new long[] {kind, a, b, c, v});
             }
             String got = call(x, kind, a, b, c, v);
             String want = model.call(kind, a, b, c, v);
@@ -247,11 +257,37 @@ public final class GroupRowsAgainstModel {
                 return false;
             }
         }
-        return sameRows(run, x, model);
+        return sameRows(run, new Reader(changes), model);
     }
 
-    private static boolean sameRows(int run, GroupRows x, Model model) {
-        boolean same = x.rows() == model.rows.size();
+    /**
+     * Reads an object as often as need be: the document promises nothing of one beyond its
+     * 512th call, so the changing calls of the run are then made again on a new object.
+     */
+    private static final class Reader {
+        private final List<long[]> changes;
+        private GroupRows object;
+        private int calls = CALLS;
+
+        private Reader(List<long[]> changes) {
+            this.changes = changes;
+        }
+
+        private boolean answers(long want, int kind, int a, int b, int c) {
+            if (calls >= CALLS) {
+                object = new GroupRows();
+                for (long[] k : changes) {
+                    call(object, (int) k[0], (int) k[1], (int) k[2], (int) k[3], k[4]);
+                }
+                calls = changes.size();
+            }
+            calls++;
+            return call(object, kind, a, b, c, 0).equals(Long.toString(want));
+        }
+    }
+
+    private static boolean sameRows(int run, Reader x, Model model) {
+        boolean same = x.answers(model.rows.size(), ROWS, 0, 0, 0);
         int p = 0;
         for (Map.Entry<int[], List<long[]>> row : model.rows.entrySet()) {
             same = same && sameRow(x, p, model, row.getKey(), row.getValue());
@@ -263,14 +299,14 @@ public final class GroupRowsAgainstModel {
         return same;
     }
 
-    private static boolean sameRow(GroupRows x, int p, Model model, int[] key, List<long[]> facts) {
-        boolean same = x.count(p) == model.facts(facts);
+    private static boolean sameRow(Reader x, int p, Model model, int[] key, List<long[]> facts) {
+        boolean same = x.answers(model.facts(facts), COUNT, p, 0, 0);
         for (int i = 0; i < model.width; i++) {
-            same &= x.keyAt(p, i) == key[i];
+            same &= x.answers(key[i], KEY_AT, p, i, 0);
         }
         for (int m = 0; m < model.measures; m++) {
             for (int what = 0; what < 3; what++) {
-                same &= x.told(p, m, what) == model.told(facts, m, what);
+                same &= x.answers(model.told(facts, m, what), TOLD, p, m, what);
             }
         }
         return same;

@@ -1,547 +1,1455 @@
+import java.util.ArrayList;
 import java.util.Arrays;
+import java.util.List;
 
-// For each promise of the document: ordinary inputs, the edges it names, and wrong inputs.
+// For each sentence of the document that names a boundary a test of its own, under that sentence.
 public final class GroupRowsPromises {
     private static final int MIN = Integer.MIN_VALUE;
     private static final int MAX = Integer.MAX_VALUE;
+    private static final long LEAST_LONG = Long.MIN_VALUE;
+    private static final long GREATEST_LONG = Long.MAX_VALUE;
+    private static final int NONE = GroupRows.NONE;
+    private static final int FULL = GroupRows.FULL;
+    private static final int ALL = GroupRows.ALL;
+    private static final String REFUSED = "throws.IllegalArgumentException";
 
+    private static String sentence = "";
     private static int wrong = 0;
+    private static final List<Answer> answers = new ArrayList<>();
 
     private interface Call {
-        long answer();
+        long on(GroupRows x);
     }
 
-    private static void due(String call, long got, long want) {
-        if (got != want) {
-            wrong++;
-            System.out.println(call + " answered " + got + ", due is " + want);
-        }
-    }
-
-    /** A refused call throws just the document's exception, and leaves everything as it was. */
-    private static void refused(GroupRows x, int width, int measures, String call, Call run) {
-        String before = state(x, width, measures);
+    private static String answer(Call call, GroupRows x) {
         try {
-            long got = run.answer();
-            wrong++;
-            System.out.println(call + " answered " + got + ", due is IllegalArgumentException");
+            return Long.toString(call.on(x));
         } catch (RuntimeException e) {
-            if (e.getClass() != IllegalArgumentException.class) {
-                wrong++;
-                System.out.println(call + " threw " + e + ", due is IllegalArgumentException");
+            return "throws." + e.getClass().getSimpleName();
+        }
+    }
+
+    private static void fault(String text) {
+        wrong++;
+        System.out.println(sentence + "\n    " + text);
+    }
+
+    private static void due(String what, Object got, Object want) {
+        if (!got.equals(want)) {
+            fault(what + " answered " + got + ", due is " + want);
+        }
+    }
+
+    private static void dueState(String what, String got, String want) {
+        String[] lines = got.split("\n");
+        String[] dueLines = want.split("\n");
+        int at = 0;
+        while (at < Math.min(lines.length, dueLines.length) && lines[at].equals(dueLines[at])) {
+            at++;
+        }
+        if (at < Math.max(lines.length, dueLines.length)) {
+            fault(what + " shows " + (at < lines.length ? lines[at] : "an end") + ", due is "
+                + (at < dueLines.length ? dueLines[at] : "an end"));
+        }
+    }
+
+    /** What a call answered; one that throws where no test asks for it is a fault too. */
+    private static final class Answer {
+        private final List<Call> before;
+        private final Call made;
+        private final String call;
+        private final String got;
+        private boolean looked = false;
+
+        private Answer(List<Call> before, Call made, String call, String got) {
+            this.before = new ArrayList<>(before);
+            this.made = made;
+            this.call = call;
+            this.got = got;
+            answers.add(this);
+        }
+
+        private void is(long want) {
+            looked = true;
+            due(call, got, Long.toString(want));
+        }
+
+        /** It throws just the document's exception, and all stays as it was. */
+        private void isRefused() {
+            looked = true;
+            due(call, got, REFUSED);
+            isWithoutTrace();
+        }
+
+        private void isWithoutTrace() {
+            List<Call> after = new ArrayList<>(before);
+            after.add(made);
+            dueState("the state after " + call, new Run(after).state(), new Run(before).state());
+        }
+    }
+
+    /**
+     * Calls on a new object. The document promises nothing of an object beyond its 512th
+     * call: where that is reached, the changing calls are made again on another new object.
+     */
+    private static final class Run {
+        private static final int MOST_CALLS = 512;
+
+        private final List<Call> changes;
+        private GroupRows object;
+        private int calls;
+
+        private Run() {
+            this(new ArrayList<>());
+        }
+
+        private Run(List<Call> changes) {
+            this.changes = changes;
+            makeAgain();
+        }
+
+        private void makeAgain() {
+            object = new GroupRows();
+            for (Call change : changes) {
+                answer(change, object);
             }
+            calls = changes.size();
         }
-        if (!before.equals(state(x, width, measures))) {
-            wrong++;
-            System.out.println(call + " was refused but changed the object");
-        }
-    }
 
-    /** All that can be seen of an object; the fact in the making is put back as it was. */
-    private static String state(GroupRows x, int width, int measures) {
-        StringBuilder text = new StringBuilder();
-        text.append(x.rows()).append('@').append(x.find());
-        for (int i = 0; i < width; i++) {
-            int v = x.key(i, 0);
-            x.key(i, v);
-            text.append(" k").append(v);
-        }
-        for (int m = 0; m < measures; m++) {
-            long v = x.amount(m, 0);
-            x.amount(m, v);
-            text.append(" a").append(v);
-        }
-        for (int place = 0; place < x.rows(); place++) {
-            text.append('\n').append(x.count(place));
-            for (int i = 0; i < width; i++) {
-                text.append(' ').append(x.keyAt(place, i));
+        private String ask(Call call) {
+            if (calls >= MOST_CALLS) {
+                makeAgain();
             }
-            for (int m = 0; m < measures; m++) {
-                for (int what = 0; what < 3; what++) {
-                    text.append(' ').append(x.told(place, m, what));
-                }
+            calls++;
+            if (calls > MOST_CALLS) {
+                throw new IllegalStateException("this test makes too many changes");
             }
+            return answer(call, object);
         }
-        return text.toString();
-    }
 
-    private static GroupRows table(int width, int measures) {
-        GroupRows x = new GroupRows();
-        x.begin(width, measures);
-        return x;
-    }
-
-    private static int addKey(GroupRows x, int n, int... key) {
-        for (int i = 0; i < key.length; i++) {
-            x.key(i, key[i]);
+        private Answer read(String text, Call call) {
+            return new Answer(changes, call, text, ask(call));
         }
-        return x.add(n);
-    }
 
-    private static void dueKeys(String what, GroupRows x, int[]... keys) {
-        due(what + ": rows()", x.rows(), keys.length);
-        for (int place = 0; place < Math.min(keys.length, x.rows()); place++) {
-            for (int i = 0; i < keys[place].length; i++) {
-                due(what + ": keyAt(" + place + ", " + i + ")", x.keyAt(place, i), keys[place][i]);
-            }
+        private Answer change(String text, Call call) {
+            Answer answer = read(text, call);
+            changes.add(call);
+            return answer;
         }
-    }
 
-    private static void dueTold(String what, GroupRows x, int place, int m, long... told) {
-        for (int w = 0; w < 3; w++) {
-            due(what + ": told(" + place + ", " + m + ", " + w + ")", x.told(place, m, w), told[w]);
-        }
-    }
-
-    private static void constants() {
-        due("NONE", GroupRows.NONE, -1);
-        due("FULL", GroupRows.FULL, -2);
-        due("ALL", GroupRows.ALL, MAX);
-    }
-
-    private static void promise1NewObject() {
-        GroupRows x = new GroupRows();
-        due("1: rows()", x.rows(), 0);
-        due("1: find()", x.find(), GroupRows.NONE);
-        refused(x, 0, 1, "1: key(0, 1) at width 0", () -> x.key(0, 1));
-        refused(x, 0, 1, "1: amount(1, 1) with one measure", () -> x.amount(1, 1));
-        refused(x, 0, 1, "1: count(0) without rows", () -> x.count(0));
-        due("1: amount(0, 4)", x.amount(0, 4), 0);
-        due("1: add(1)", x.add(1), 1);
-        due("1: add(1) of the one key there is", x.add(1), 1);
-        due("1: find() of the empty key", x.find(), 0);
-        dueTold("1", x, 0, 0, 8, 4, 4);
-    }
-
-    private static void promise2Begin() {
-        for (int width = 0; width <= 8; width++) {
-            for (int measures = 1; measures <= 8; measures++) {
-                GroupRows x = table(width, measures);
-                for (int i = 0; i < width; i++) {
-                    due("2: key(i, 5)", x.key(i, 5), 0);
-                }
-                for (int m = 0; m < measures; m++) {
-                    due("2: amount(m, 5)", x.amount(m, 5), 0);
-                }
-                int w = width;
-                int m = measures;
-                refused(x, w, m, "2: key beyond the width", () -> x.key(w, 5));
-                refused(x, w, m, "2: amount beyond the measures", () -> x.amount(m, 5));
-            }
-        }
-        promise2BeginAgain();
-        promise2BeginRefused();
-    }
-
-    private static void promise2BeginAgain() {
-        GroupRows x = table(8, 8);
-        for (int j = 0; j < 8; j++) {
-            x.key(j, j + 1);
-            x.amount(j, j + 1);
-        }
-        x.spread(1000, 3, 1);
-        x.begin(1, 1);
-        x.begin(8, 8);
-        due("2: rows() of a table begun again", x.rows(), 0);
-        due("2: find() in a table begun again", x.find(), GroupRows.NONE);
-        for (int j = 0; j < 8; j++) {
-            due("2: key begun again", x.key(j, 0), 0);
-            due("2: amount begun again", x.amount(j, 0), 0);
-        }
-        due("2: add(3) in a table begun again", x.add(3), 1);
-        due("2: count(0) in a table begun again", x.count(0), 3);
-        for (int m = 0; m < 8; m++) {
-            dueTold("2: begun again", x, 0, m, 0, 0, 0);
-        }
-    }
-
-    private static void promise2BeginRefused() {
-        GroupRows x = table(2, 2);
-        x.key(1, 3);
-        x.amount(1, 4);
-        x.add(2);
-        int[][] bad = {{-1, 1}, {9, 1}, {MIN, 1}, {MAX, 1}, {0, 0}, {0, 9}, {0, -1}, {0, MIN},
-            {8, MAX}, {9, 9}, {-1, 0}};
-        for (int[] b : bad) {
-            refused(x, 2, 2, "2: begin" + Arrays.toString(b), () -> {
-                x.begin(b[0], b[1]);
+        private Answer begin(int width, int measures) {
+            return change("begin(" + width + ", " + measures + ")", x -> {
+                x.begin(width, measures);
                 return 0;
             });
         }
-    }
 
-    private static void promise3Key() {
-        GroupRows x = table(3, 1);
-        due("3: key(1, 7)", x.key(1, 7), 0);
-        due("3: key(1, MIN)", x.key(1, MIN), 7);
-        due("3: key(1, MAX)", x.key(1, MAX), MIN);
-        due("3: key(1, 0)", x.key(1, 0), MAX);
-        due("3: key(0, 1) of another part", x.key(0, 1), 0);
-        due("3: key(2, 2) of another part", x.key(2, 2), 0);
-        x.add(1);
-        due("3: key(0, 5) after add", x.key(0, 5), 1);
-        due("3: keyAt of a row that stands", x.keyAt(0, 0), 1);
-        for (int i : new int[] {-1, 3, 8, MIN, MAX}) {
-            refused(x, 3, 1, "3: key(" + i + ", 1)", () -> x.key(i, 1));
+        private Answer key(int i, int v) {
+            return change("key(" + i + ", " + v + ")", x -> x.key(i, v));
         }
-    }
 
-    private static void promise4Amount() {
-        GroupRows x = table(1, 3);
-        due("4: amount(1, 7)", x.amount(1, 7), 0);
-        due("4: amount(1, MIN)", x.amount(1, Long.MIN_VALUE), 7);
-        due("4: amount(1, MAX)", x.amount(1, Long.MAX_VALUE), Long.MIN_VALUE);
-        due("4: amount(1, 0)", x.amount(1, 0), Long.MAX_VALUE);
-        due("4: amount(0, 1) of another measure", x.amount(0, 1), 0);
-        due("4: amount(2, 2) of another measure", x.amount(2, 2), 0);
-        x.add(1);
-        due("4: amount(0, 5) after add", x.amount(0, 5), 1);
-        dueTold("4: of a row that stands", x, 0, 0, 1, 1, 1);
-        for (int m : new int[] {-1, 3, 8, MIN, MAX}) {
-            refused(x, 1, 3, "4: amount(" + m + ", 1)", () -> x.amount(m, 1));
+        private Answer amount(int m, long v) {
+            return change("amount(" + m + ", " + v + ")", x -> x.amount(m, v));
         }
-    }
 
-    private static void promise5Add() {
-        GroupRows x = table(2, 2);
-        x.amount(0, 5);
-        x.amount(1, -6);
-        due("5: add(1)", addKey(x, 1, 1, 2), 1);
-        due("5: add(100000)", x.add(100000), 1);
-        due("5: count(0)", x.count(0), 100001);
-        dueTold("5", x, 0, 0, 500005, 5, 5);
-        dueTold("5", x, 0, 1, -600006, -6, -6);
-        x.amount(0, -9);
-        x.amount(1, 11);
-        due("5: add(2)", x.add(2), 1);
-        dueTold("5: lesser and greater", x, 0, 0, 499987, -9, 5);
-        dueTold("5: lesser and greater", x, 0, 1, -599984, -6, 11);
-        due("5: add(1) of another key", addKey(x, 1, 2, 1), 2);
-        dueTold("5: the other row", x, 1, 0, -9, -9, -9);
-        for (int n : new int[] {0, -1, 100001, MIN, MAX}) {
-            refused(x, 2, 2, "5: add(" + n + ")", () -> x.add(n));
+        private Answer add(int n) {
+            return change("add(" + n + ")", x -> x.add(n));
         }
-        promise5AddWraps();
-        promise5AddInOrder();
-        promise5AddFull();
-    }
 
-    private static void promise5AddWraps() {
-        GroupRows x = table(0, 1);
-        x.amount(0, Long.MAX_VALUE);
-        x.add(100000);
-        dueTold("5: wrapping", x, 0, 0, -100000, Long.MAX_VALUE, Long.MAX_VALUE);
-        x.amount(0, Long.MIN_VALUE);
-        x.add(1);
-        dueTold("5: wrapping", x, 0, 0, Long.MIN_VALUE - 100000, Long.MIN_VALUE, Long.MAX_VALUE);
-    }
+        private Answer spread(int n, int i, int step) {
+            return change("spread(" + n + ", " + i + ", " + step + ")", x -> x.spread(n, i, step));
+        }
 
-    private static void promise5AddInOrder() {
-        int[][] sorted = {{MIN, MAX}, {-1, 0}, {0, MIN}, {0, -5}, {0, 0}, {0, MAX}, {3, -9}, {MAX, MIN}};
-        int[] comes = {4, 7, 0, 2, 6, 5, 1, 3};
-        GroupRows x = table(2, 1);
-        for (int c = 0; c < comes.length; c++) {
-            x.amount(0, comes[c]);
-            due("5: add in any order", addKey(x, comes[c] + 1, sorted[comes[c]]), c + 1);
+        private Answer roll(int i) {
+            return change("roll(" + i + ")", x -> x.roll(i));
         }
-        dueKeys("5: order of keys", x, sorted);
-        for (int place = 0; place < sorted.length; place++) {
-            due("5: count goes with its key", x.count(place), place + 1);
-            dueTold("5: goes with its key", x, place, 0, place * (place + 1), place, place);
-        }
-    }
 
-    private static void promise5AddFull() {
-        GroupRows x = table(1, 1);
-        x.spread(999, 0, 2);
-        due("5: add of the 1000th row", addKey(x, 1, 5000), 1000);
-        x.key(0, 5001);
-        String before = state(x, 1, 1);
-        due("5: add of one row too many", x.add(1), GroupRows.FULL);
-        due("5: state after FULL is the same (1)", before.equals(state(x, 1, 1)) ? 1 : 0, 1);
-        due("5: add to a row that stands in a full table", addKey(x, 4, 0), 1000);
-        due("5: count(0) in a full table", x.count(0), 5);
-        refused(x, 1, 1, "5: add(0) in a full table", () -> x.add(0));
-        x.key(0, 1);
-        refused(x, 1, 1, "5: add(100001) of one row too many", () -> x.add(100001));
-    }
+        private Answer rows() {
+            return read("rows()", x -> x.rows());
+        }
 
-    private static void promise6Spread() {
-        GroupRows x = table(2, 2);
-        x.key(0, 9);
-        x.key(1, 10);
-        x.amount(0, 100);
-        x.amount(1, -1);
-        due("6: spread(3, 1, -4)", x.spread(3, 1, -4), 3);
-        dueKeys("6", x, new int[] {9, 2}, new int[] {9, 6}, new int[] {9, 10});
-        dueTold("6", x, 0, 0, 92, 92, 92);
-        dueTold("6", x, 0, 1, -9, -9, -9);
-        dueTold("6", x, 2, 0, 100, 100, 100);
-        due("6: the last fact is in the making", x.find(), 0);
-        due("6: key(0, 9)", x.key(0, 9), 9);
-        due("6: key(1, 2)", x.key(1, 2), 2);
-        due("6: amount(0, 92)", x.amount(0, 92), 92);
-        due("6: amount(1, -9)", x.amount(1, -9), -9);
-        due("6: spread(1, 0, 7)", x.spread(1, 0, 7), 1);
-        due("6: one fact steps nothing", x.key(0, 9), 9);
-        due("6: count(0)", x.count(0), 2);
-        due("6: spread(5000, 0, 0)", x.spread(5000, 0, 0), 5000);
-        due("6: count(0) without a step", x.count(0), 5002);
-        dueTold("6: without a step", x, 0, 0, 92 * 5002, 92, 92);
-        for (int i : new int[] {-1, 2, 8, MIN, MAX}) {
-            refused(x, 2, 2, "6: spread(1, " + i + ", 1)", () -> x.spread(1, i, 1));
+        private Answer find() {
+            return read("find()", x -> x.find());
         }
-        for (int n : new int[] {0, -1, 5001, MIN, MAX}) {
-            refused(x, 2, 2, "6: spread(" + n + ", 0, 1)", () -> x.spread(n, 0, 1));
-        }
-        GroupRows narrow = new GroupRows();
-        refused(narrow, 0, 1, "6: spread(1, 0, 1) at width 0", () -> narrow.spread(1, 0, 1));
-        promise6SpreadWraps();
-        promise6SpreadStops();
-    }
 
-    private static void promise6SpreadWraps() {
-        GroupRows x = table(1, 2);
-        x.key(0, MAX - 1);
-        x.amount(0, Long.MAX_VALUE);
-        x.amount(1, MAX);
-        due("6: spread over the greatest int", x.spread(3, 0, 1), 3);
-        dueKeys("6: wrapping", x, new int[] {MIN}, new int[] {MAX - 1}, new int[] {MAX});
-        dueTold("6: wrapping", x, 0, 0, Long.MIN_VALUE + 1, Long.MIN_VALUE + 1, Long.MIN_VALUE + 1);
-        dueTold("6: an amount is a long", x, 0, 1, MAX + 2L, MAX + 2L, MAX + 2L);
-        x.begin(1, 1);
-        due("6: spread by the least int", x.spread(5, 0, MIN), 5);
-        dueKeys("6: two keys in turn", x, new int[] {MIN}, new int[] {0});
-        due("6: count(0) in turn", x.count(0), 2);
-        due("6: count(1) in turn", x.count(1), 3);
-        dueTold("6: in turn", x, 0, 0, 4L * MIN, 3L * MIN, MIN);
-        dueTold("6: in turn", x, 1, 0, 6L * MIN, 4L * MIN, 0);
-    }
+        private Answer keyAt(int place, int i) {
+            return read("keyAt(" + place + ", " + i + ")", x -> x.keyAt(place, i));
+        }
 
-    private static void promise6SpreadStops() {
-        GroupRows x = table(1, 1);
-        due("6: spread of more than there is room for", x.spread(5000, 0, -1), 1000);
-        due("6: rows() of a full table", x.rows(), 1000);
-        due("6: the refused one is in the making, its key", x.key(0, -1000), -1000);
-        due("6: the refused one is in the making, its amount", x.amount(0, -1000), -1000);
-        due("6: find() of the refused one", x.find(), GroupRows.NONE);
-        String before = state(x, 1, 1);
-        due("6: spread of a refused one", x.spread(2, 0, 1), 0);
-        due("6: state after none came is the same (1)", before.equals(state(x, 1, 1)) ? 1 : 0, 1);
-        x.key(0, -998);
-        due("6: spread over rows that stand", x.spread(5000, 0, -1), 2);
-        due("6: key of the one that was refused", x.key(0, 0), -1000);
-        due("6: count(0) of one that came again", x.count(0), 2);
-        due("6: spread within a full table", x.spread(1000, 0, -1), 1000);
-        due("6: count(999)", x.count(999), 2);
-    }
+        private Answer count(int place) {
+            return read("count(" + place + ")", x -> x.count(place));
+        }
 
-    private static void promise7Roll() {
-        GroupRows x = table(3, 2);
-        int[][] keys = {{1, 5, 2}, {2, 5, 1}, {1, 6, 2}, {2, 4, 2}, {3, 4, 1}};
-        for (int k = 0; k < keys.length; k++) {
-            x.amount(0, k * 10);
-            x.amount(1, -k);
-            addKey(x, k + 1, keys[k]);
+        private Answer told(int place, int m, int what) {
+            return read("told(" + place + ", " + m + ", " + what + ")", x -> x.told(place, m, what));
         }
-        due("7: roll(0) that joins none", x.roll(0), 5);
-        int a = GroupRows.ALL;
-        dueKeys("7: a new order", x, new int[] {a, 4, 1}, new int[] {a, 4, 2}, new int[] {a, 5, 1},
-            new int[] {a, 5, 2}, new int[] {a, 6, 2});
-        long[] counts = {5, 4, 2, 1, 3};
-        for (int place = 0; place < 5; place++) {
-            due("7: count goes with its key", x.count(place), counts[place]);
-        }
-        due("7: roll(1)", x.roll(1), 2);
-        dueKeys("7: joined", x, new int[] {a, a, 1}, new int[] {a, a, 2});
-        due("7: count(0)", x.count(0), 7);
-        due("7: count(1)", x.count(1), 8);
-        dueTold("7: joined", x, 0, 0, 220, 10, 40);
-        dueTold("7: joined", x, 0, 1, -22, -4, -1);
-        dueTold("7: joined", x, 1, 0, 180, 0, 30);
-        dueTold("7: joined", x, 1, 1, -18, -3, 0);
-        due("7: roll(1) again", x.roll(1), 2);
-        due("7: count(1) again", x.count(1), 8);
-        due("7: the fact in the making is not rolled up", x.key(0, 3), 3);
-        due("7: its next part", x.key(1, 4), 4);
-        for (int i : new int[] {-1, 3, 8, MIN, MAX}) {
-            refused(x, 3, 2, "7: roll(" + i + ")", () -> x.roll(i));
-        }
-        GroupRows narrow = new GroupRows();
-        refused(narrow, 0, 1, "7: roll(0) at width 0", () -> narrow.roll(0));
-        due("7: roll(0) without rows", table(1, 1).roll(0), 0);
-        promise7RollMeetsAll();
-        promise7RollFreesRoom();
-    }
 
-    private static void promise7RollMeetsAll() {
-        GroupRows x = table(1, 1);
-        x.amount(0, Long.MAX_VALUE);
-        addKey(x, 2, GroupRows.ALL);
-        x.amount(0, Long.MIN_VALUE);
-        addKey(x, 1, 5);
-        due("7: roll(0) into a row that has ALL", x.roll(0), 1);
-        due("7: count(0) with ALL", x.count(0), 3);
-        dueTold("7: wrapping", x, 0, 0, Long.MAX_VALUE - 1, Long.MIN_VALUE, Long.MAX_VALUE);
-        x.key(0, GroupRows.ALL);
-        due("7: find() with ALL", x.find(), 0);
-        due("7: add to a rolled row", x.add(1), 1);
-        due("7: count(0) after add", x.count(0), 4);
-    }
+        private void toldIs(int place, int m, long sum, long least, long greatest) {
+            told(place, m, 0).is(sum);
+            told(place, m, 1).is(least);
+            told(place, m, 2).is(greatest);
+        }
 
-    private static void promise7RollFreesRoom() {
-        GroupRows x = table(2, 1);
-        for (int k = 0; k < 10; k++) {
-            x.key(0, k);
-            x.key(1, -7 * k);
-            due("7: spread(100, 1, 1)", x.spread(100, 1, 1), 100);
+        private Run fact(int... key) {
+            for (int i = 0; i < key.length; i++) {
+                key(i, key[i]);
+            }
+            return this;
         }
-        due("7: roll(0) of a full table", x.roll(0), 163);
-        long facts = 0;
-        for (int place = 0; place < x.rows(); place++) {
-            due("7: keys in order", x.keyAt(place, 1), place - 63);
-            facts += x.count(place);
-        }
-        due("7: all facts are there", facts, 1000);
-        x.key(0, 0);
-        x.key(1, 0);
-        x.amount(0, 1);
-        due("7: spread into the freed room", x.spread(5000, 1, 1), 837);
-        due("7: rows() filled again", x.rows(), 1000);
-        for (int place = 0; place < 837; place++) {
-            due("7: a new row's first part", x.keyAt(place, 0), 0);
-            due("7: a new row's second part", x.keyAt(place, 1), place);
-            due("7: a new row's count", x.count(place), 1);
-            dueTold("7: a new row", x, place, 0, place + 1, place + 1, place + 1);
-        }
-        due("7: an old row stands", x.keyAt(837, 1), -63);
-        due("7: roll(1)", x.roll(1), 2);
-        due("7: count(0)", x.count(0), 837);
-        due("7: count(1)", x.count(1), 1000);
-    }
 
-    private static void promise8Rows() {
-        GroupRows x = table(1, 1);
-        due("8: rows()", x.rows(), 0);
-        for (int k = 1; k <= 20; k++) {
-            addKey(x, 1, -k);
-            due("8: rows() after a new key", x.rows(), k);
-            x.add(1);
-            due("8: rows() after an old key", x.rows(), k);
+        private Run amounts(long... amounts) {
+            for (int m = 0; m < amounts.length; m++) {
+                amount(m, amounts[m]);
+            }
+            return this;
         }
-        x.roll(0);
-        due("8: rows() after roll", x.rows(), 1);
-        x.begin(1, 1);
-        due("8: rows() after begin", x.rows(), 0);
-    }
 
-    private static void promise9Find() {
-        GroupRows x = table(2, 1);
-        due("9: find() without rows", x.find(), GroupRows.NONE);
-        x.spread(500, 0, 2);
-        for (int k = 0; k < 500; k++) {
-            x.key(0, 2 * k);
-            due("9: find() of a row", x.find(), k);
-            x.key(0, 2 * k - 1);
-            due("9: find() between rows", x.find(), GroupRows.NONE);
+        private void keyOfFactIs(int... key) {
+            Run copy = new Run(new ArrayList<>(changes));
+            for (int i = 0; i < key.length; i++) {
+                copy.key(i, 0).is(key[i]);
+            }
         }
-        for (int k : new int[] {MIN, -1, 999, MAX}) {
-            x.key(0, k);
-            due("9: find() of " + k, x.find(), GroupRows.NONE);
-        }
-        x.key(0, 6);
-        x.key(1, 1);
-        due("9: find() with another last part", x.find(), GroupRows.NONE);
-        x.key(1, 0);
-        due("9: find() does not look at amounts", x.find(), 3);
-        due("9: find() again", x.find(), 3);
-        due("9: find() adds nothing", x.rows(), 500);
-    }
 
-    private static void promise10KeyAt() {
-        GroupRows x = table(8, 1);
-        int[] first = {1, -2, 3, MIN, MAX, 0, 7, -8};
-        int[] second = {1, -2, 3, MIN, MAX, 0, 7, -7};
-        addKey(x, 1, second);
-        addKey(x, 1, first);
-        dueKeys("10: eight parts", x, first, second);
-        for (int place : new int[] {-1, 2, 1000, MIN, MAX}) {
-            refused(x, 8, 1, "10: keyAt(" + place + ", 0)", () -> x.keyAt(place, 0));
+        private void amountsOfFactAre(long... amounts) {
+            Run copy = new Run(new ArrayList<>(changes));
+            for (int m = 0; m < amounts.length; m++) {
+                copy.amount(m, 0).is(amounts[m]);
+            }
         }
-        for (int i : new int[] {-1, 8, MIN, MAX}) {
-            refused(x, 8, 1, "10: keyAt(0, " + i + ")", () -> x.keyAt(0, i));
-        }
-        x.begin(2, 1);
-        refused(x, 2, 1, "10: keyAt(0, 0) without rows", () -> x.keyAt(0, 0));
-        x.add(1);
-        refused(x, 2, 1, "10: keyAt(0, 2) at width 2", () -> x.keyAt(0, 2));
-        GroupRows narrow = new GroupRows();
-        narrow.add(1);
-        refused(narrow, 0, 1, "10: keyAt(0, 0) at width 0", () -> narrow.keyAt(0, 0));
-    }
 
-    private static void promise11Count() {
-        GroupRows x = table(1, 1);
-        addKey(x, 3, 5);
-        addKey(x, 4, -5);
-        addKey(x, 100000, 5);
-        due("11: count(0)", x.count(0), 4);
-        due("11: count(1)", x.count(1), 100003);
-        x.begin(0, 1);
-        for (int k = 0; k < 300; k++) {
-            x.add(100000);
+        private void keysAre(int[]... keys) {
+            rows().is(keys.length);
+            for (int place = 0; place < keys.length; place++) {
+                for (int i = 0; i < keys[place].length; i++) {
+                    keyAt(place, i).is(keys[place][i]);
+                }
+            }
         }
-        due("11: count(0) of many", x.count(0), 30000000);
-        for (int place : new int[] {-1, 1, 1000, MIN, MAX}) {
-            refused(x, 0, 1, "11: count(" + place + ")", () -> x.count(place));
+
+        /** All that can be seen of an object. */
+        private String state() {
+            Run copy = new Run(new ArrayList<>(changes));
+            StringBuilder text = new StringBuilder("found at " + copy.ask(x -> x.find()) + ", in the making");
+            for (int j = 0; j < 8; j++) {
+                int at = j;
+                text.append(' ').append(copy.ask(x -> x.key(at, 0)));
+                text.append(' ').append(copy.ask(x -> x.amount(at, 0)));
+            }
+            return text.append(", ").append(table()).toString();
+        }
+
+        /** All that can be seen of the rows. */
+        private String table() {
+            Run copy = new Run(new ArrayList<>(changes));
+            StringBuilder text = new StringBuilder(copy.ask(x -> x.rows()) + " rows:");
+            boolean some = true;
+            for (int place = 0; some; place++) {
+                int p = place;
+                String count = copy.ask(x -> x.count(p));
+                some = !count.equals(REFUSED) && place <= 1000;
+                text.append(some ? "\n" + count + copy.row(p) : "");
+            }
+            return text.toString();
+        }
+
+        private String row(int place) {
+            StringBuilder text = new StringBuilder();
+            String part = "";
+            for (int i = 0; i <= 8 && !part.equals(REFUSED); i++) {
+                int at = i;
+                part = ask(x -> x.keyAt(place, at));
+                text.append(" k").append(part);
+            }
+            String told = "";
+            for (int at = 0; at <= 24 && !told.equals(REFUSED); at++) {
+                int m = at / 3;
+                int what = at % 3;
+                told = ask(x -> x.told(place, m, what));
+                text.append(" t").append(told);
+            }
+            return text.toString();
         }
     }
 
-    private static void promise12Told() {
-        GroupRows x = table(1, 8);
-        for (int m = 0; m < 8; m++) {
-            x.amount(m, m - 4);
+    private static void test(String quote, Runnable test) {
+        sentence = quote;
+        answers.clear();
+        test.run();
+        for (Answer a : answers) {
+            if (!a.looked && a.got.startsWith("throws.")) {
+                fault(a.call + " answered " + a.got + ", due is an answer");
+            }
         }
-        addKey(x, 2, 1);
-        for (int m = 0; m < 8; m++) {
-            x.amount(m, 10 * m - 40);
+    }
+
+    private static Run table(int width, int measures) {
+        Run r = new Run();
+        r.begin(width, measures);
+        return r;
+    }
+
+    /** Rows with the keys 0, 2, .. 1998 in part 0, and 0 in the others. */
+    private static Run fullTable(int width, int measures) {
+        Run r = table(width, measures);
+        r.spread(1000, 0, 2);
+        return r;
+    }
+
+    /** Three rows, a fact in the making that is none of them, and no two numbers alike. */
+    private static Run smallTable() {
+        Run r = table(2, 2);
+        r.fact(3, 4).amounts(50, -60).add(7);
+        r.fact(-3, 5).amounts(-51, 61).add(8);
+        r.fact(3, -4).amounts(52, 62).add(9);
+        r.fact(11, 12).amounts(13, 14);
+        return r;
+    }
+
+    private static int[] outside(int least, int greatest) {
+        return new int[] {MIN, MIN + 1, -1000, least - 1, greatest + 1, greatest + 1000, MAX - 1, MAX};
+    }
+
+    private static List<int[]> orders(int n) {
+        List<int[]> orders = new ArrayList<>();
+        orders.add(new int[0]);
+        for (int length = 0; length < n; length++) {
+            List<int[]> longer = new ArrayList<>();
+            for (int[] order : orders) {
+                for (int at = 0; at <= length; at++) {
+                    int[] next = Arrays.copyOf(order, length + 1);
+                    System.arraycopy(order, at, next, at + 1, length - at);
+                    next[at] = length;
+                    longer.add(next);
+                }
+            }
+            orders = longer;
         }
-        addKey(x, 3, 1);
-        addKey(x, 1, 0);
-        for (int m = 0; m < 8; m++) {
-            long small = m - 4;
-            dueTold("12", x, 1, m, 32 * small, Math.min(small, 10 * small), Math.max(small, 10 * small));
-            dueTold("12", x, 0, m, 10 * small, 10 * small, 10 * small);
-        }
-        for (int place : new int[] {-1, 2, 1000, MIN, MAX}) {
-            refused(x, 1, 8, "12: told(" + place + ", 0, 0)", () -> x.told(place, 0, 0));
-        }
-        for (int m : new int[] {-1, 8, MIN, MAX}) {
-            refused(x, 1, 8, "12: told(0, " + m + ", 0)", () -> x.told(0, m, 0));
-        }
-        for (int what : new int[] {-1, 3, MIN, MAX}) {
-            refused(x, 1, 8, "12: told(0, 0, " + what + ")", () -> x.told(0, 0, what));
-        }
-        x.begin(1, 2);
-        refused(x, 1, 2, "12: told(0, 0, 0) without rows", () -> x.told(0, 0, 0));
-        x.add(1);
-        refused(x, 1, 2, "12: told(0, 2, 0) with two measures", () -> x.told(0, 2, 0));
+        return orders;
+    }
+
+    private static void whatItIs() {
+        test("What it is: whatever the order in which they come", () -> {
+            int[][] keys = {{1, 2}, {1, -2}, {0, 7}, {1, 2}, {ALL, MIN}};
+            String first = null;
+            for (int[] order : orders(keys.length)) {
+                Run r = table(2, 2);
+                for (int k : order) {
+                    r.fact(keys[k]).amounts(GREATEST_LONG - k, k - 2).add(k + 1);
+                }
+                first = first == null ? r.table() : first;
+                dueState("the table of the order " + Arrays.toString(order), r.table(), first);
+            }
+        });
+        test("What it is: however often they are put together again with fewer keys", () -> {
+            int[][] keys = {{1, 2, 3}, {1, 2, 4}, {1, 5, 3}, {6, 2, 3}, {6, 5, 4}};
+            for (int[] order : orders(3)) {
+                Run r = table(3, 1);
+                for (int k = 0; k < keys.length; k++) {
+                    r.fact(keys[k]).amounts(10 * k - 20).add(k + 1);
+                }
+                for (int i : order) {
+                    r.roll(i);
+                    String rolled = r.table();
+                    r.roll(i);
+                    dueState("the table after roll(" + i + ") again", r.table(), rolled);
+                }
+                r.keysAre(new int[] {ALL, ALL, ALL});
+                r.count(0).is(15);
+                r.toldIs(0, 0, 100, -20, 20);
+            }
+        });
+        test("What it is: put together again between the facts or after them is alike", () -> {
+            Run between = table(2, 1);
+            Run after = table(2, 1);
+            for (int k = 0; k < 30; k++) {
+                between.fact(ALL, k % 7).amounts(k * k).add(1 + k % 3);
+                between.roll(0);
+                after.fact(-k, k % 7).amounts(k * k).add(1 + k % 3);
+            }
+            after.roll(0);
+            dueState("the table rolled up after each fact", between.table(), after.table());
+        });
+        test("What it is: An object is used for at most 512 calls after it has been made", () -> {
+            GroupRows x = new GroupRows();
+            for (int call = 1; call < 512; call++) {
+                due("add, call " + call, x.add(100000), 1);
+            }
+            due("count(0), call 512", x.count(0), 51100000L);
+            GroupRows wide = new GroupRows();
+            wide.begin(8, 8);
+            for (int call = 2; call < 512; call++) {
+                due("spread, call " + call, wide.spread(5000, 7, MAX), call == 2 ? 1000 : 0);
+            }
+            due("rows(), call 512", wide.rows(), 1000);
+        });
+    }
+
+    private static void constants() {
+        test("Terms: NONE = -1", () -> due("NONE", GroupRows.NONE, -1));
+        test("Terms: FULL = -2", () -> due("FULL", GroupRows.FULL, -2));
+        test("Terms: ALL = 2147483647", () -> due("ALL", GroupRows.ALL, 2147483647));
+        test("Terms: ALL is the greatest int", () -> due("ALL", GroupRows.ALL, Integer.MAX_VALUE));
+    }
+
+    private static void termsOfTheTable() {
+        test("Terms: THE TABLE has a WIDTH, 0 .. 8", () -> {
+            for (int width = 0; width <= 8; width++) {
+                Run r = table(width, 3);
+                for (int i = 0; i < width; i++) {
+                    r.key(i, i + 1).is(0);
+                    r.key(i, i + 1).is(i + 1);
+                }
+                r.key(width, 1).isRefused();
+                r.add(1).is(1);
+                for (int i = 0; i < width; i++) {
+                    r.keyAt(0, i).is(i + 1);
+                }
+                r.keyAt(0, width).isRefused();
+            }
+        });
+        test("Terms: and MEASURES, 1 .. 8", () -> {
+            for (int measures = 1; measures <= 8; measures++) {
+                Run r = table(3, measures);
+                for (int m = 0; m < measures; m++) {
+                    r.amount(m, m + 1).is(0);
+                    r.amount(m, m + 1).is(m + 1);
+                }
+                r.amount(measures, 1).isRefused();
+                r.add(2).is(1);
+                for (int m = 0; m < measures; m++) {
+                    r.toldIs(0, m, 2 * m + 2, m + 1, m + 1);
+                }
+                r.told(0, measures, 0).isRefused();
+            }
+        });
+        test("Terms: A KEY has as many parts (ints) as the table is wide", () -> {
+            for (int width = 1; width <= 8; width++) {
+                for (int i = 0; i < width; i++) {
+                    Run r = table(width, 1);
+                    r.add(1).is(1);
+                    r.key(i, MIN).is(0);
+                    r.add(2).is(2);
+                    r.key(i, MAX).is(MIN);
+                    r.add(3).is(3);
+                    r.count(0).is(2);
+                    r.count(1).is(1);
+                    r.count(2).is(3);
+                    r.keyAt(0, i).is(MIN);
+                    r.keyAt(2, i).is(MAX);
+                }
+            }
+        });
+        test("Terms: There is at most one ROW for a key", () -> {
+            Run r = table(8, 1);
+            r.fact(1, 2, 3, 4, 5, 6, 7, 8).add(1).is(1);
+            r.add(1).is(1);
+            r.key(7, 9);
+            r.add(1).is(2);
+            r.key(7, 7);
+            r.add(1).is(3);
+            r.key(7, 8);
+            r.add(1).is(3);
+            r.count(1).is(3);
+        });
+        test("Terms: at most one ROW for a key, also for that without parts", () -> {
+            Run r = table(0, 8);
+            r.add(1).is(1);
+            r.amounts(1, 2, 3, 4, 5, 6, 7, 8).add(1).is(1);
+            r.rows().is(1);
+            r.count(0).is(2);
+            r.toldIs(0, 7, 8, 0, 8);
+        });
+        test("Terms: 1000 rows at most", () -> {
+            for (int width = 1; width <= 8; width++) {
+                Run r = table(width, 1);
+                r.spread(999, width - 1, 1).is(999);
+                r.rows().is(999);
+                r.key(0, -1);
+                r.add(1).is(1000);
+                r.key(0, -2);
+                r.add(1).is(FULL);
+                r.rows().is(1000);
+            }
+        });
+    }
+
+    private static void termsOfARow() {
+        test("Terms: for each measure the sum (wrapping, as longs), past the greatest", () -> {
+            Run r = table(0, 2);
+            r.amounts(GREATEST_LONG, 0).add(1);
+            r.told(0, 0, 0).is(GREATEST_LONG);
+            r.amounts(1, 0).add(1);
+            r.told(0, 0, 0).is(LEAST_LONG);
+            r.told(0, 1, 0).is(0);
+        });
+        test("Terms: for each measure the sum (wrapping, as longs), past the least", () -> {
+            Run r = table(0, 2);
+            r.amounts(0, LEAST_LONG).add(1);
+            r.told(0, 1, 0).is(LEAST_LONG);
+            r.amounts(0, -1).add(1);
+            r.told(0, 1, 0).is(GREATEST_LONG);
+            r.told(0, 0, 0).is(0);
+        });
+        test("Terms: the sum, as longs: past what an int holds", () -> {
+            Run r = table(0, 1);
+            r.amounts(MAX).add(100000);
+            r.told(0, 0, 0).is(214748364700000L);
+            r.amounts(MIN).add(100000);
+            r.told(0, 0, 0).is(-100000);
+        });
+        test("Terms: the least amount, of none but the row's facts", () -> {
+            Run r = table(0, 1);
+            r.amounts(GREATEST_LONG).add(2);
+            r.told(0, 0, 1).is(GREATEST_LONG);
+            r.amounts(7).add(2);
+            r.told(0, 0, 1).is(7);
+            r.amounts(8).add(2);
+            r.told(0, 0, 1).is(7);
+            r.amounts(-1).add(2);
+            r.told(0, 0, 1).is(-1);
+            r.amounts(LEAST_LONG).add(2);
+            r.told(0, 0, 1).is(LEAST_LONG);
+        });
+        test("Terms: the greatest amount, of none but the row's facts", () -> {
+            Run r = table(0, 1);
+            r.amounts(LEAST_LONG).add(2);
+            r.told(0, 0, 2).is(LEAST_LONG);
+            r.amounts(-7).add(2);
+            r.told(0, 0, 2).is(-7);
+            r.amounts(-8).add(2);
+            r.told(0, 0, 2).is(-7);
+            r.amounts(1).add(2);
+            r.told(0, 0, 2).is(1);
+            r.amounts(GREATEST_LONG).add(2);
+            r.told(0, 0, 2).is(GREATEST_LONG);
+        });
+        test("Terms: Rows are in the order of their keys, a lesser one first", () -> {
+            int[][] sorted = {{MIN}, {MIN + 1}, {-1}, {0}, {1}, {MAX - 1}, {MAX}};
+            for (int[] comes : new int[][] {{0, 1, 2, 3, 4, 5, 6}, {6, 5, 4, 3, 2, 1, 0}, {3, 6, 0, 5, 2, 4, 1}}) {
+                Run r = table(1, 1);
+                for (int k : comes) {
+                    r.fact(sorted[k]).amounts(k).add(k + 1);
+                }
+                r.keysAre(sorted);
+                for (int place = 0; place < sorted.length; place++) {
+                    r.count(place).is(place + 1);
+                    r.toldIs(place, 0, place * (place + 1), place, place);
+                }
+            }
+        });
+        test("Terms: by the first part that differs", () -> {
+            int[][] sorted = {{MIN, MAX, MAX}, {0, MIN, MAX}, {0, 0, MIN}, {0, 0, 0}, {0, 0, MAX}, {0, 1, MIN},
+                {1, MIN, MIN}};
+            Run r = table(3, 1);
+            for (int k : new int[] {5, 2, 6, 0, 3, 1, 4}) {
+                r.fact(sorted[k]).add(k + 1);
+            }
+            r.keysAre(sorted);
+            for (int place = 0; place < sorted.length; place++) {
+                r.count(place).is(place + 1);
+            }
+        });
+        test("Terms: by the first part that differs, which is the last of eight", () -> {
+            Run r = table(8, 1);
+            r.fact(5, 5, 5, 5, 5, 5, 5, 1).add(1);
+            r.fact(5, 5, 5, 5, 5, 5, 5, -1).add(2);
+            r.fact(5, 5, 5, 5, 5, 5, 4, 9).add(3);
+            r.keysAre(new int[] {5, 5, 5, 5, 5, 5, 4, 9}, new int[] {5, 5, 5, 5, 5, 5, 5, -1},
+                new int[] {5, 5, 5, 5, 5, 5, 5, 1});
+        });
+    }
+
+    private static void termsOfTheFact() {
+        test("Terms: THE FACT IN THE MAKING has a key and an amount, all 0 when a table is begun", () -> {
+            Run r = table(8, 8);
+            r.keyOfFactIs(0, 0, 0, 0, 0, 0, 0, 0);
+            r.amountsOfFactAre(0, 0, 0, 0, 0, 0, 0, 0);
+            r.fact(1, 2, 3, 4, 5, 6, 7, 8).amounts(1, 2, 3, 4, 5, 6, 7, 8);
+            r.begin(8, 8);
+            r.keyOfFactIs(0, 0, 0, 0, 0, 0, 0, 0);
+            r.amountsOfFactAre(0, 0, 0, 0, 0, 0, 0, 0);
+        });
+        test("Terms: all 0 when a table is begun, also what a narrower one between them did not have", () -> {
+            Run r = table(8, 8);
+            r.fact(1, 2, 3, 4, 5, 6, 7, 8).amounts(1, 2, 3, 4, 5, 6, 7, 8);
+            r.begin(0, 1);
+            r.amountsOfFactAre(0);
+            r.begin(8, 8);
+            r.keyOfFactIs(0, 0, 0, 0, 0, 0, 0, 0);
+            r.amountsOfFactAre(0, 0, 0, 0, 0, 0, 0, 0);
+        });
+        test("Terms: all 0 when a table is begun, so for a new object too", () -> {
+            Run r = new Run();
+            r.amountsOfFactAre(0);
+            r.add(3).is(1);
+            r.toldIs(0, 0, 0, 0, 0);
+        });
+    }
+
+    private static void termsOfRefusals() {
+        test("Terms: a number is out of its bounds; a call that throws changes nothing", () -> {
+            Run r = smallTable();
+            r.begin(9, 1).isRefused();
+            r.begin(1, 9).isRefused();
+            r.key(2, 77).isRefused();
+            r.amount(2, 77).isRefused();
+            r.add(100001).isRefused();
+            r.spread(5001, 0, 1).isRefused();
+            r.spread(5000, 2, 1).isRefused();
+            r.roll(2).isRefused();
+            r.keyAt(0, 2).isRefused();
+            r.told(0, 2, 0).isRefused();
+            r.told(0, 0, 3).isRefused();
+            dueState("the table after all refusals", r.state(), smallTable().state());
+        });
+        test("Terms: or there is no such row", () -> {
+            Run r = smallTable();
+            r.keyAt(3, 0).isRefused();
+            r.count(3).isRefused();
+            r.told(3, 0, 0).isRefused();
+        });
+        test("Terms: Of several exceptions the one named first is thrown", () -> {
+            Run r = smallTable();
+            r.begin(-1, 0).isRefused();
+            r.begin(9, 9).isRefused();
+            r.spread(0, 2, 1).isRefused();
+            r.spread(5001, -1, 1).isRefused();
+            r.keyAt(3, 2).isRefused();
+            r.keyAt(-1, -1).isRefused();
+            r.told(3, 2, 3).isRefused();
+            r.told(-1, -1, -1).isRefused();
+            r.told(0, 2, 3).isRefused();
+        });
+        test("Terms: a call that throws changes nothing, in a full table either", () -> {
+            Run r = fullTable(2, 2);
+            r.key(1, 9);
+            r.begin(-1, 1).isRefused();
+            r.add(0).isRefused();
+            r.spread(0, 0, 1).isRefused();
+            r.roll(-1).isRefused();
+            r.count(1000).isRefused();
+        });
+    }
+
+    private static void promise1() {
+        test("Promise 1: A table of width 0", () -> {
+            Run r = new Run();
+            r.key(0, 1).isRefused();
+            r.key(-1, 1).isRefused();
+            r.spread(1, 0, 1).isRefused();
+            r.roll(0).isRefused();
+            r.add(1).is(1);
+            r.keyAt(0, 0).isRefused();
+        });
+        test("Promise 1: with one measure", () -> {
+            Run r = new Run();
+            r.amount(0, 4).is(0);
+            r.amount(1, 4).isRefused();
+            r.add(2).is(1);
+            r.toldIs(0, 0, 8, 4, 4);
+            r.told(0, 1, 0).isRefused();
+        });
+        test("Promise 1: without rows", () -> {
+            Run r = new Run();
+            r.rows().is(0);
+            r.find().is(NONE);
+            r.count(0).isRefused();
+            r.told(0, 0, 0).isRefused();
+            r.keyAt(0, 0).isRefused();
+        });
+    }
+
+    private static void promise2() {
+        test("Promise 2: Begins a table without rows", () -> {
+            Run r = smallTable();
+            r.begin(2, 2).is(0);
+            r.rows().is(0);
+            r.count(0).isRefused();
+            dueState("the table begun again", r.state(), table(2, 2).state());
+        });
+        test("Promise 2: Begins a table without rows, of every width and number of measures", () -> {
+            for (int width = 0; width <= 8; width++) {
+                for (int measures = 1; measures <= 8; measures++) {
+                    Run r = fullTable(8, 8);
+                    r.begin(width, measures).is(0);
+                    dueState("the table begun again", r.state(), table(width, measures).state());
+                    r.add(5).is(1);
+                    r.toldIs(0, measures - 1, 0, 0, 0);
+                    r.count(0).is(5);
+                }
+            }
+        });
+        test("Promise 2: without rows, then with room for 1000 again", () -> {
+            Run r = fullTable(1, 1);
+            r.begin(3, 1);
+            r.key(2, -500);
+            r.spread(1001, 2, 1).is(1000);
+            r.rows().is(1000);
+            r.roll(2).is(1);
+            r.begin(1, 1);
+            r.spread(1001, 0, -1).is(1000);
+            r.keyAt(0, 0).is(-999);
+            r.keyAt(999, 0).is(0);
+        });
+        test("Promise 2: Illegal argument: width is not 0 .. 8", () -> {
+            Run r = smallTable();
+            for (int width : outside(0, 8)) {
+                r.begin(width, 1).isRefused();
+                r.begin(width, 8).isRefused();
+            }
+        });
+        test("Promise 2: or measures not 1 .. 8", () -> {
+            Run r = smallTable();
+            for (int measures : outside(1, 8)) {
+                r.begin(0, measures).isRefused();
+                r.begin(8, measures).isRefused();
+            }
+        });
+    }
+
+    private static void promise3() {
+        test("Promise 3: Part i of the key of the fact in the making becomes v: what it was", () -> {
+            for (int i = 0; i < 8; i++) {
+                Run r = table(8, 1);
+                r.key(i, MIN).is(0);
+                r.key(i, MAX).is(MIN);
+                r.key(i, -1).is(MAX);
+                int[] key = new int[8];
+                key[i] = -1;
+                r.keyOfFactIs(key);
+                r.amountsOfFactAre(0);
+                r.add(1).is(1);
+                r.keysAre(key);
+            }
+        });
+        test("Promise 3: of the fact in the making, not of a row", () -> {
+            Run r = table(2, 1);
+            r.fact(1, 2).add(1);
+            r.key(0, 5).is(1);
+            r.keysAre(new int[] {1, 2});
+        });
+        test("Promise 3: Illegal argument", () -> {
+            for (int width = 0; width <= 8; width++) {
+                Run r = table(width, 1);
+                for (int i : outside(0, width - 1)) {
+                    r.key(i, 1).isRefused();
+                }
+            }
+        });
+    }
+
+    private static void promise4() {
+        test("Promise 4: The amount of measure m of the fact in the making becomes v: what it was", () -> {
+            for (int m = 0; m < 8; m++) {
+                Run r = table(1, 8);
+                r.amount(m, LEAST_LONG).is(0);
+                r.amount(m, GREATEST_LONG).is(LEAST_LONG);
+                r.amount(m, -1).is(GREATEST_LONG);
+                long[] amounts = new long[8];
+                amounts[m] = -1;
+                r.amountsOfFactAre(amounts);
+                r.keyOfFactIs(0);
+                r.add(1).is(1);
+                for (int other = 0; other < 8; other++) {
+                    r.toldIs(0, other, amounts[other], amounts[other], amounts[other]);
+                }
+            }
+        });
+        test("Promise 4: of the fact in the making, not of a row", () -> {
+            Run r = table(0, 2);
+            r.amounts(1, 2).add(1);
+            r.amount(0, 5).is(1);
+            r.toldIs(0, 0, 1, 1, 1);
+        });
+        test("Promise 4: Illegal argument", () -> {
+            for (int measures = 1; measures <= 8; measures++) {
+                Run r = table(1, measures);
+                for (int m : outside(0, measures - 1)) {
+                    r.amount(m, 1).isRefused();
+                }
+            }
+        });
+    }
+
+    private static void promise5() {
+        test("Promise 5: The fact in the making comes into the table, n times: once", () -> {
+            Run r = table(2, 2);
+            r.fact(1, 2).amounts(5, -6).add(1).is(1);
+            r.keysAre(new int[] {1, 2});
+            r.count(0).is(1);
+            r.toldIs(0, 0, 5, 5, 5);
+            r.toldIs(0, 1, -6, -6, -6);
+        });
+        test("Promise 5: n times: 100000 times", () -> {
+            Run r = table(2, 2);
+            r.fact(1, 2).amounts(5, -6).add(100000).is(1);
+            r.count(0).is(100000);
+            r.toldIs(0, 0, 500000, 5, 5);
+            r.toldIs(0, 1, -600000, -6, -6);
+            r.add(99999).is(1);
+            r.count(0).is(199999);
+            r.told(0, 0, 0).is(999995);
+        });
+        test("Promise 5: n times, the sum wrapping within one call", () -> {
+            Run r = table(0, 2);
+            r.amounts(GREATEST_LONG, LEAST_LONG).add(100000);
+            r.toldIs(0, 0, -100000, GREATEST_LONG, GREATEST_LONG);
+            r.toldIs(0, 1, 0, LEAST_LONG, LEAST_LONG);
+            r.add(99999);
+            r.toldIs(0, 0, -100000 + (GREATEST_LONG - 99998), GREATEST_LONG, GREATEST_LONG);
+            r.toldIs(0, 1, LEAST_LONG, LEAST_LONG, LEAST_LONG);
+        });
+        test("Promise 5: the fact in the making stays as it is", () -> {
+            Run r = table(2, 2);
+            r.fact(1, 2).amounts(5, -6).add(9);
+            r.keyOfFactIs(1, 2);
+            r.amountsOfFactAre(5, -6);
+        });
+        test("Promise 5: how many rows there are", () -> {
+            Run r = table(1, 1);
+            r.add(1).is(1);
+            r.add(1).is(1);
+            r.key(0, 1);
+            r.add(1).is(2);
+            r.key(0, -1);
+            r.add(1).is(3);
+            r.key(0, 0);
+            r.add(1).is(3);
+        });
+        test("Promise 5: FULL (then it does not come)", () -> {
+            for (int key : new int[] {MIN, -1, 1, 999, 1997, 1999, MAX}) {
+                Run r = fullTable(1, 1);
+                r.key(0, key);
+                r.amount(0, 77);
+                Answer full = r.add(3);
+                full.is(FULL);
+                full.isWithoutTrace();
+                r.add(100000).is(FULL);
+                r.rows().is(1000);
+                r.find().is(NONE);
+            }
+        });
+        test("Promise 5: not FULL for the key of a row, in a full table either", () -> {
+            Run r = fullTable(1, 1);
+            for (int key : new int[] {0, 2, 1000, 1996, 1998}) {
+                r.key(0, key);
+                r.amount(0, -1);
+                r.add(4).is(1000);
+                r.count(key / 2).is(5);
+                r.toldIs(key / 2, 0, key - 4, -1, key);
+            }
+        });
+        test("Promise 5: the 1000th row comes, the next does not", () -> {
+            Run r = table(1, 1);
+            r.spread(999, 0, 1).is(999);
+            r.key(0, MIN);
+            r.add(2).is(1000);
+            r.count(0).is(2);
+            r.key(0, MAX);
+            r.add(2).is(FULL);
+            r.keyAt(999, 0).is(998);
+        });
+        test("Promise 5: Illegal argument: n is not 1 .. 100000", () -> {
+            Run r = smallTable();
+            for (int n : outside(1, 100000)) {
+                r.add(n).isRefused();
+            }
+        });
+        test("Promise 5: Illegal argument, also where it would be FULL", () -> {
+            Run r = fullTable(1, 1);
+            r.key(0, 1);
+            for (int n : outside(1, 100000)) {
+                r.add(n).isRefused();
+            }
+        });
+    }
+
+    private static void promise6Facts() {
+        test("Promise 6: n facts come, one after the other: the one in the making alone", () -> {
+            Run r = table(2, 2);
+            r.fact(9, 10).amounts(100, -1).spread(1, 1, 7).is(1);
+            r.keysAre(new int[] {9, 10});
+            r.count(0).is(1);
+            r.toldIs(0, 0, 100, 100, 100);
+            r.keyOfFactIs(9, 10);
+            r.amountsOfFactAre(100, -1);
+        });
+        test("Promise 6: and each next one with part i of its key, and all amounts, greater by step", () -> {
+            for (int i = 0; i < 8; i++) {
+                Run r = table(8, 8);
+                r.fact(1, 2, 3, 4, 5, 6, 7, 8).amounts(10, 20, 30, 40, 50, 60, 70, 80);
+                r.spread(3, i, 5).is(3);
+                r.rows().is(3);
+                for (int place = 0; place < 3; place++) {
+                    for (int j = 0; j < 8; j++) {
+                        r.keyAt(place, j).is(j + 1 + (i == j ? 5 * place : 0));
+                        long amount = 10 * j + 10 + 5 * place;
+                        r.toldIs(place, j, amount, amount, amount);
+                    }
+                    r.count(place).is(1);
+                }
+            }
+        });
+        test("Promise 6: greater by step, which may be less than 0", () -> {
+            Run r = table(1, 1);
+            r.fact(1).amounts(2).spread(3, 0, -3).is(3);
+            r.keysAre(new int[] {-5}, new int[] {-2}, new int[] {1});
+            r.toldIs(0, 0, -4, -4, -4);
+            r.toldIs(1, 0, -1, -1, -1);
+            r.toldIs(2, 0, 2, 2, 2);
+        });
+        test("Promise 6: greater by step, which may be 0: 5000 facts of one key", () -> {
+            Run r = table(1, 1);
+            r.fact(4).amounts(-3).spread(5000, 0, 0).is(5000);
+            r.keysAre(new int[] {4});
+            r.count(0).is(5000);
+            r.toldIs(0, 0, -15000, -3, -3);
+        });
+        test("Promise 6: (wrapping): a part past the greatest int", () -> {
+            Run r = table(1, 1);
+            r.fact(MAX - 1).spread(3, 0, 1).is(3);
+            r.keysAre(new int[] {MIN}, new int[] {MAX - 1}, new int[] {MAX});
+            r.keyOfFactIs(MIN);
+        });
+        test("Promise 6: (wrapping): a part past the least int", () -> {
+            Run r = table(1, 1);
+            r.fact(MIN).spread(2, 0, -1).is(2);
+            r.keysAre(new int[] {MIN}, new int[] {MAX});
+            r.keyOfFactIs(MAX);
+        });
+        test("Promise 6: (wrapping): an amount past the greatest long, and not past the greatest int", () -> {
+            Run r = table(1, 2);
+            r.amounts(GREATEST_LONG, MAX).spread(2, 0, 1).is(2);
+            r.toldIs(1, 0, LEAST_LONG, LEAST_LONG, LEAST_LONG);
+            r.toldIs(1, 1, MAX + 1L, MAX + 1L, MAX + 1L);
+            r.amountsOfFactAre(LEAST_LONG, MAX + 1L);
+        });
+        test("Promise 6: (wrapping): an amount past the least long, and not past the least int", () -> {
+            Run r = table(1, 2);
+            r.amounts(LEAST_LONG, MIN).spread(2, 0, -1).is(2);
+            r.toldIs(0, 0, GREATEST_LONG, GREATEST_LONG, GREATEST_LONG);
+            r.toldIs(0, 1, MIN - 1L, MIN - 1L, MIN - 1L);
+            r.amountsOfFactAre(GREATEST_LONG, MIN - 1L);
+        });
+        test("Promise 6: (wrapping): by the greatest and the least step", () -> {
+            Run r = table(1, 1);
+            r.spread(5, 0, MIN).is(5);
+            r.keysAre(new int[] {MIN}, new int[] {0});
+            r.count(0).is(2);
+            r.count(1).is(3);
+            r.toldIs(0, 0, 4L * MIN, 3L * MIN, MIN);
+            r.toldIs(1, 0, 6L * MIN, 4L * MIN, 0);
+            r.begin(1, 1);
+            r.spread(3, 0, MAX).is(3);
+            r.keysAre(new int[] {-2}, new int[] {0}, new int[] {MAX});
+            r.amountsOfFactAre(2L * MAX);
+        });
+        test("Promise 6: that in the making is as the last one of them then", () -> {
+            Run r = table(2, 2);
+            r.fact(9, 10).amounts(100, -1).spread(4, 1, -4).is(4);
+            r.keyOfFactIs(9, -2);
+            r.amountsOfFactAre(88, -13);
+            r.find().is(0);
+            r.count(0).is(1);
+        });
+    }
+
+    private static void promise6Room() {
+        test("Promise 6: Stops before one for which there is no room", () -> {
+            Run r = table(1, 1);
+            r.spread(5000, 0, -1).is(1000);
+            r.rows().is(1000);
+            r.keyAt(0, 0).is(-999);
+            r.keyAt(999, 0).is(0);
+        });
+        test("Promise 6: which then is the one in the making", () -> {
+            Run r = table(2, 2);
+            r.key(1, 6);
+            r.amounts(0, 70).spread(1001, 0, -1).is(1000);
+            r.keyOfFactIs(-1000, 6);
+            r.amountsOfFactAre(-1000, -930);
+            r.find().is(NONE);
+        });
+        test("Promise 6: does not stop where there is just room: the last one is in the making", () -> {
+            Run r = table(1, 1);
+            r.spread(1000, 0, 1).is(1000);
+            r.keyOfFactIs(999);
+            r.amountsOfFactAre(999);
+            r.find().is(999);
+        });
+        test("Promise 6: Answers how many came: none, and all stays as it was", () -> {
+            for (int n : new int[] {1, 2, 5000}) {
+                Run r = fullTable(1, 1);
+                r.key(0, 1);
+                Answer none = r.spread(n, 0, 1);
+                none.is(0);
+                none.isWithoutTrace();
+            }
+        });
+        test("Promise 6: Answers how many came: in a full table those that have a row", () -> {
+            Run r = fullTable(1, 1);
+            r.fact(1994).amounts(1).spread(5000, 0, 2).is(3);
+            r.keyOfFactIs(2000);
+            r.amountsOfFactAre(7);
+            r.count(996).is(1);
+            r.count(997).is(2);
+            r.toldIs(999, 0, 2003, 5, 1998);
+        });
+        test("Promise 6: Answers how many came: all, in a full table of their keys", () -> {
+            Run r = fullTable(1, 1);
+            r.fact(0).amounts(0).spread(1000, 0, 2).is(1000);
+            r.count(0).is(2);
+            r.count(999).is(2);
+            r.keyOfFactIs(1998);
+        });
+        test("Promise 6: Answers how many came: 5000 in turn in two rows of a full table", () -> {
+            Run r = table(1, 1);
+            r.key(0, MIN);
+            r.add(1);
+            r.key(0, 0);
+            r.spread(999, 0, 1).is(999);
+            r.key(0, 0);
+            r.spread(5000, 0, MIN).is(5000);
+            r.rows().is(1000);
+            r.count(0).is(2501);
+            r.count(1).is(2501);
+        });
+        test("Promise 6: Illegal argument: there is no part i", () -> {
+            for (int width = 0; width <= 8; width++) {
+                Run r = table(width, 1);
+                r.add(1);
+                for (int i : outside(0, width - 1)) {
+                    r.spread(1, i, 1).isRefused();
+                    r.spread(5000, i, 0).isRefused();
+                }
+            }
+        });
+        test("Promise 6: or n is not 1 .. 5000", () -> {
+            Run r = smallTable();
+            for (int n : outside(1, 5000)) {
+                r.spread(n, 0, 1).isRefused();
+                r.spread(n, 1, 0).isRefused();
+            }
+            Run full = fullTable(1, 1);
+            full.key(0, 1);
+            full.spread(0, 0, 1).isRefused();
+            full.spread(5001, 0, 1).isRefused();
+        });
+    }
+
+    private static void promise7() {
+        test("Promise 7: Each key gets ALL as part i", () -> {
+            for (int i = 0; i < 8; i++) {
+                Run r = table(8, 1);
+                int[] less = {1, 2, 3, 4, 5, 6, 7, 8};
+                int[] more = {2, 3, 4, 5, 6, 7, 8, 9};
+                r.fact(more).add(1);
+                r.fact(less).add(2);
+                r.roll(i).is(2);
+                less[i] = ALL;
+                more[i] = ALL;
+                r.keysAre(less, more);
+                r.count(0).is(2);
+                r.count(1).is(1);
+            }
+        });
+        test("Promise 7: Each key: that of the fact in the making is not a row's", () -> {
+            Run r = smallTable();
+            r.roll(0);
+            r.keyOfFactIs(11, 12);
+            r.amountsOfFactAre(13, 14);
+        });
+        test("Promise 7: Each key, of no row and of one row", () -> {
+            Run r = table(1, 1);
+            r.roll(0).is(0);
+            r.rows().is(0);
+            r.fact(MIN).amounts(6).add(2);
+            r.roll(0).is(1);
+            r.keysAre(new int[] {ALL});
+            r.count(0).is(2);
+            r.toldIs(0, 0, 12, 6, 6);
+        });
+        test("Promise 7: the rows are in the order of their new keys", () -> {
+            Run r = table(2, 1);
+            for (int k = 0; k < 6; k++) {
+                r.fact(k, -k).amounts(k).add(k + 1);
+            }
+            r.roll(0).is(6);
+            for (int place = 0; place < 6; place++) {
+                r.keyAt(place, 0).is(ALL);
+                r.keyAt(place, 1).is(place - 5);
+                r.count(place).is(6 - place);
+                r.toldIs(place, 0, (5 - place) * (6 - place), 5 - place, 5 - place);
+            }
+        });
+        test("Promise 7: rows that are alike then become one, of all their facts", () -> {
+            Run r = smallTable();
+            r.fact(8, 4).amounts(-53, 63).add(10);
+            r.roll(0).is(3);
+            r.keysAre(new int[] {ALL, -4}, new int[] {ALL, 4}, new int[] {ALL, 5});
+            r.count(0).is(9);
+            r.count(1).is(17);
+            r.count(2).is(8);
+            r.toldIs(0, 0, 468, 52, 52);
+            r.toldIs(1, 0, -180, -53, 50);
+            r.toldIs(1, 1, 210, -60, 63);
+            r.toldIs(2, 1, 488, 61, 61);
+        });
+        test("Promise 7: of all their facts, in whichever row the least and the greatest were", () -> {
+            for (int wide = 0; wide < 3; wide++) {
+                Run r = table(1, 2);
+                for (int k = 0; k < 3; k++) {
+                    int reach = k == wide ? 9 : 1;
+                    r.fact(k).amounts(-reach, 100 - reach).add(1);
+                    r.fact(k).amounts(reach, 100 + reach).add(1);
+                }
+                r.roll(0).is(1);
+                r.count(0).is(6);
+                r.toldIs(0, 0, 0, -9, 9);
+                r.toldIs(0, 1, 600, 91, 109);
+            }
+        });
+        test("Promise 7: of all their facts, the sum wrapping", () -> {
+            Run r = table(1, 2);
+            r.fact(2).amounts(GREATEST_LONG, LEAST_LONG).add(1);
+            r.fact(1).amounts(GREATEST_LONG, LEAST_LONG + 1).add(2);
+            r.roll(0).is(1);
+            r.count(0).is(3);
+            r.toldIs(0, 0, GREATEST_LONG - 2, GREATEST_LONG, GREATEST_LONG);
+            r.toldIs(0, 1, LEAST_LONG + 2, LEAST_LONG, LEAST_LONG + 1);
+        });
+        test("Promise 7: alike, with one that had ALL before", () -> {
+            Run r = table(1, 1);
+            r.fact(ALL).amounts(7).add(2);
+            r.fact(5).amounts(-7).add(1);
+            r.roll(0).is(1);
+            r.keysAre(new int[] {ALL});
+            r.count(0).is(3);
+            r.toldIs(0, 0, 7, -7, 7);
+            r.key(0, ALL);
+            r.find().is(0);
+            r.add(1).is(1);
+            r.count(0).is(4);
+        });
+        test("Promise 7: none alike: a roll that was made before changes nothing", () -> {
+            Run r = smallTable();
+            r.roll(1).is(3 - 1);
+            Answer again = r.roll(1);
+            again.is(2);
+            again.isWithoutTrace();
+        });
+    }
+
+    private static void promise7Room() {
+        test("Promise 7: how many rows there are: one of a full table", () -> {
+            Run r = fullTable(1, 1);
+            r.roll(0).is(1);
+            r.rows().is(1);
+            r.count(0).is(1000);
+            r.toldIs(0, 0, 999000, 0, 1998);
+            r.count(1).isRefused();
+        });
+        test("Promise 7: how many rows there are: one of a full table of eight parts and measures", () -> {
+            Run r = fullTable(8, 8);
+            r.roll(0).is(1);
+            r.keysAre(new int[] {ALL, 0, 0, 0, 0, 0, 0, 0});
+            for (int m = 0; m < 8; m++) {
+                r.toldIs(0, m, 999000, 0, 1998);
+            }
+        });
+        test("Promise 7: how many rows there are: 1000 of a full table, none alike", () -> {
+            Run r = fullTable(2, 1);
+            r.roll(1).is(1000);
+            r.rows().is(1000);
+            for (int place : new int[] {0, 499, 999}) {
+                r.keyAt(place, 0).is(2 * place);
+                r.keyAt(place, 1).is(ALL);
+                r.toldIs(place, 0, 2 * place, 2 * place, 2 * place);
+            }
+        });
+        test("Promise 7: rows that are alike become one: there is room for others then", () -> {
+            Run r = table(2, 1);
+            for (int k = 0; k < 10; k++) {
+                r.fact(k, -7 * k).spread(100, 1, 1).is(100);
+            }
+            r.roll(0).is(163);
+            long facts = 0;
+            for (int place = 0; place < 163; place++) {
+                r.keyAt(place, 1).is(place - 63);
+                facts += Long.parseLong(r.count(place).got);
+            }
+            due("the facts of all rows", facts, 1000L);
+            r.fact(0, 0).amounts(1).spread(5000, 1, 1).is(837);
+            r.rows().is(1000);
+            for (int place = 0; place < 837; place++) {
+                r.keyAt(place, 0).is(0);
+                r.keyAt(place, 1).is(place);
+                r.count(place).is(1);
+                r.toldIs(place, 0, place + 1, place + 1, place + 1);
+            }
+            r.keyAt(837, 1).is(-63);
+            r.roll(1).is(2);
+            r.count(0).is(837);
+            r.count(1).is(1000);
+        });
+        test("Promise 7: Illegal argument", () -> {
+            for (int width = 0; width <= 8; width++) {
+                Run r = table(width, 1);
+                r.add(1);
+                for (int i : outside(0, width - 1)) {
+                    r.roll(i).isRefused();
+                }
+            }
+        });
+    }
+
+    private static void promise8() {
+        test("Promise 8: How many rows there are: from none to 1000", () -> {
+            Run r = table(1, 1);
+            r.rows().is(0);
+            for (int k = 0; k < 100; k++) {
+                r.spread(10, 0, -1).is(10);
+                r.rows().is(10 * k + 10);
+                r.key(0, -10 * k - 10);
+            }
+            r.add(1).is(FULL);
+            r.rows().is(1000);
+        });
+        test("Promise 8: How many rows there are, after facts with old keys, roll and begin", () -> {
+            Run r = smallTable();
+            r.rows().is(3);
+            r.rows().isWithoutTrace();
+            r.fact(3, 4).add(1);
+            r.rows().is(3);
+            r.roll(1);
+            r.rows().is(2);
+            r.roll(0);
+            r.rows().is(1);
+            r.begin(2, 2);
+            r.rows().is(0);
+        });
+    }
+
+    private static void promise9() {
+        test("Promise 9: The place (from 0) of the row with the key of the fact in the making", () -> {
+            Run r = smallTable();
+            r.fact(-3, 5).find().is(0);
+            r.fact(3, -4).find().is(1);
+            r.fact(3, 4).find().is(2);
+            r.amounts(1, 2).find().is(2);
+            r.find().isWithoutTrace();
+        });
+        test("Promise 9: The place (from 0), each of a full table, and NONE between them", () -> {
+            for (int place = 0; place < 1000; place++) {
+                if (place % 7 == 0 || place > 990) {
+                    Run r = fullTable(1, 1);
+                    r.fact(2 * place).find().is(place);
+                    r.fact(2 * place - 1).find().is(NONE);
+                }
+            }
+        });
+        test("Promise 9: The place (from 0), each of few rows", () -> {
+            for (int rows = 1; rows <= 20; rows++) {
+                Run r = table(1, 1);
+                r.spread(rows, 0, 2);
+                for (int place = 0; place < rows; place++) {
+                    r.fact(2 * place).find().is(place);
+                    r.fact(2 * place + 1).find().is(NONE);
+                }
+            }
+        });
+        test("Promise 9: NONE without one: without rows", () -> {
+            new Run().find().is(NONE);
+            table(8, 1).find().is(NONE);
+        });
+        test("Promise 9: NONE without one: less than the first, greater than the last", () -> {
+            for (int key : new int[] {MIN, -1, 1999, 2000, MAX}) {
+                Run r = fullTable(1, 1);
+                r.fact(key).find().is(NONE);
+            }
+        });
+        test("Promise 9: NONE without one: one part differs", () -> {
+            for (int i = 0; i < 8; i++) {
+                Run r = table(8, 1);
+                r.fact(1, 2, 3, 4, 5, 6, 7, 8).add(1);
+                r.find().is(0);
+                r.key(i, 0);
+                r.find().is(NONE);
+                r.key(i, 9);
+                r.find().is(NONE);
+            }
+        });
+        test("Promise 9: NONE without one: its row was rolled up, or gone with its table", () -> {
+            Run r = table(2, 1);
+            r.fact(4, 5).add(1);
+            r.roll(1);
+            r.find().is(NONE);
+            r.fact(4, ALL).find().is(0);
+            r.begin(2, 1);
+            r.fact(4, ALL).find().is(NONE);
+        });
+        test("Promise 9: The place of the one row without parts", () -> {
+            Run r = new Run();
+            r.add(1);
+            r.find().is(0);
+        });
+    }
+
+    private static void promise10() {
+        test("Promise 10: Part i of the key of the row at a place", () -> {
+            int[] first = {1, -2, 3, MIN, MAX, 0, 7, -8};
+            int[] second = {1, -2, 3, MIN, MAX, 0, 7, -7};
+            Run r = table(8, 1);
+            r.fact(second).add(1);
+            r.fact(first).add(1);
+            r.keysAre(first, second);
+            r.keyAt(1, 7).isWithoutTrace();
+        });
+        test("Promise 10: the row at a place: the first and the last of a full table", () -> {
+            Run r = fullTable(2, 1);
+            r.keyAt(0, 0).is(0);
+            r.keyAt(999, 0).is(1998);
+            r.keyAt(999, 1).is(0);
+            r.keyAt(1000, 0).isRefused();
+            r.keyAt(-1, 0).isRefused();
+        });
+        test("Promise 10: Illegal argument: there is no such row", () -> {
+            Run r = smallTable();
+            for (int place : outside(0, 2)) {
+                r.keyAt(place, 0).isRefused();
+                r.keyAt(place, 1).isRefused();
+            }
+            table(1, 1).keyAt(0, 0).isRefused();
+        });
+        test("Promise 10: Illegal argument: there is no part i", () -> {
+            for (int width = 0; width <= 8; width++) {
+                Run r = table(width, 1);
+                r.add(1);
+                for (int i : outside(0, width - 1)) {
+                    r.keyAt(0, i).isRefused();
+                }
+            }
+        });
+        test("Promise 10: Illegal argument: the row was rolled up", () -> {
+            Run r = smallTable();
+            r.roll(1);
+            r.keyAt(1, 0).is(3);
+            r.keyAt(2, 0).isRefused();
+        });
+    }
+
+    private static void promise11() {
+        test("Promise 11: How many facts the row at a place has", () -> {
+            Run r = table(1, 1);
+            r.fact(5).add(3);
+            r.fact(-5).add(1);
+            r.fact(5).add(100000);
+            r.fact(5).spread(2, 0, 0);
+            r.count(0).is(1);
+            r.count(1).is(100005);
+            r.count(1).isWithoutTrace();
+        });
+        test("Promise 11: How many facts, as many as can come", () -> {
+            Run r = new Run();
+            for (int k = 0; k < 500; k++) {
+                r.add(100000);
+            }
+            r.count(0).is(50000000);
+        });
+        test("Promise 11: the row at a place: the first and the last of a full table", () -> {
+            Run r = fullTable(1, 1);
+            r.fact(0).add(2);
+            r.fact(1998).add(3);
+            r.count(0).is(3);
+            r.count(999).is(4);
+            r.count(1000).isRefused();
+            r.count(-1).isRefused();
+        });
+        test("Promise 11: Illegal argument", () -> {
+            Run r = smallTable();
+            for (int place : outside(0, 2)) {
+                r.count(place).isRefused();
+            }
+            new Run().count(0).isRefused();
+            r.roll(1);
+            r.count(2).isRefused();
+        });
+    }
+
+    private static void promise12() {
+        test("Promise 12: Of measure m, for the row at a place: 0 the sum, 1 the least, 2 the greatest", () -> {
+            Run r = table(1, 8);
+            r.fact(1).amounts(-4, -3, -2, -1, 0, 1, 2, 3).add(2);
+            r.amounts(-40, -30, -20, -10, 0, 10, 20, 30).add(3);
+            r.fact(0).add(1);
+            for (int m = 0; m < 8; m++) {
+                long small = m - 4;
+                r.toldIs(0, m, 10 * small, 10 * small, 10 * small);
+                r.toldIs(1, m, 32 * small, Math.min(small, 10 * small), Math.max(small, 10 * small));
+                r.told(1, m, 2).isWithoutTrace();
+            }
+        });
+        test("Promise 12: the row at a place: the first and the last of a full table", () -> {
+            Run r = fullTable(1, 8);
+            r.toldIs(0, 7, 0, 0, 0);
+            r.toldIs(999, 7, 1998, 1998, 1998);
+            r.toldIs(999, 0, 1998, 1998, 1998);
+            r.told(1000, 0, 0).isRefused();
+            r.told(-1, 0, 0).isRefused();
+        });
+        test("Promise 12: Illegal argument: there is no such row", () -> {
+            Run r = smallTable();
+            for (int place : outside(0, 2)) {
+                for (int what = 0; what < 3; what++) {
+                    r.told(place, 1, what).isRefused();
+                }
+            }
+            new Run().told(0, 0, 0).isRefused();
+            r.roll(1);
+            r.told(2, 0, 0).isRefused();
+        });
+        test("Promise 12: Illegal argument: there is no measure m", () -> {
+            for (int measures = 1; measures <= 8; measures++) {
+                Run r = table(0, measures);
+                r.add(1);
+                for (int m : outside(0, measures - 1)) {
+                    for (int what = 0; what < 3; what++) {
+                        r.told(0, m, what).isRefused();
+                    }
+                }
+            }
+        });
+        test("Promise 12: Illegal argument: also if what is none of these", () -> {
+            Run r = smallTable();
+            for (int what : outside(0, 2)) {
+                r.told(0, 0, what).isRefused();
+                r.told(2, 1, what).isRefused();
+            }
+        });
     }
 
     public static void main(String[] args) {
+        whatItIs();
         constants();
-        promise1NewObject();
-        promise2Begin();
-        promise3Key();
-        promise4Amount();
-        promise5Add();
-        promise6Spread();
-        promise7Roll();
-        promise8Rows();
-        promise9Find();
-        promise10KeyAt();
-        promise11Count();
-        promise12Told();
+        termsOfTheTable();
+        termsOfARow();
+        termsOfTheFact();
+        termsOfRefusals();
+        promise1();
+        promise2();
+        promise3();
+        promise4();
+        promise5();
+        promise6Facts();
+        promise6Room();
+        promise7();
+        promise7Room();
+        promise8();
+        promise9();
+        promise10();
+        promise11();
+        promise12();
         System.out.println(wrong == 0 ? "all promises hold" : wrong + " answers are not as due");
         if (wrong != 0) {
             System.exit(1);
