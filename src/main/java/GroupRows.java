@@ -201,6 +201,7 @@ public final class GroupRows {
         return true;
     }
 
+    /** A row that no fact has come into yet: the one in the making is to be its first. */
     private void openRow(int place) {
         int slot = slots[rowCount];
         insertSlot(slot, place, rowCount);
@@ -210,8 +211,8 @@ public final class GroupRows {
         int at = slot * MOST_MEASURES;
         for (int m = 0; m < measures; m++) {
             sums[at + m] = 0;
-            leasts[at + m] = Long.MAX_VALUE;
-            greatests[at + m] = Long.MIN_VALUE;
+            leasts[at + m] = factAmounts[m];
+            greatests[at + m] = factAmounts[m];
         }
     }
 
